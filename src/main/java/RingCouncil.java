@@ -31,6 +31,8 @@ public final class RingCouncil {
     private static final int MOST_RUN_HOURS = 6;
     private static final int MOST_RUN_NOTE = 2;
     private static final int MOST_LIARS = 2;
+    // Two liars, each with none or 3 notes to a side, and a rope.
+    private static final int MOST_DOINGS = 1024;
     private static final int MOST_STATES = 2000;
     private static final int MOST_WATCHED = 20;
     private static final int NOBODY_LIES = 512;
@@ -1297,9 +1299,11 @@ public final class RingCouncil {
         private final Moment here;
         private final Moment there;
         private final int[] liars = new int[MOST_LIARS];
+        // The liars' doings of an hour that are tried, in order.
+        private final int[] tries = new int[MOST_DOINGS];
         private int liarCount;
         private int noteKinds;
-        private int doingCount;
+        private int tryCount;
 
         Runs(int rooms, Hall hall) {
             this.hall = hall;
@@ -1330,7 +1334,7 @@ public final class RingCouncil {
         private void seatLiars(Elders elders, int v) {
             liarCount = 0;
             noteKinds = v + 2;
-            doingCount = 1;
+            int doingCount = 1;
             for (int room = 0; room < hall.rooms && liarCount < MOST_LIARS; room++) {
                 if (elders.kinds[room] == LIAR) {
                     liars[liarCount] = room;
@@ -1338,6 +1342,29 @@ public final class RingCouncil {
                     doingCount *= noteKinds * noteKinds * 2;
                 }
             }
+            tryCount = 0;
+            for (int doing = 0; doing < doingCount && tryCount < MOST_DOINGS; doing++) {
+                if (!isIdle(elders, doing)) {
+                    tries[tryCount] = doing;
+                    tryCount++;
+                }
+            }
+        }
+
+        /** A barred note comes to none, and a stuck pull to no pull: those are tried anyway. */
+        private boolean isIdle(Elders elders, int doing) {
+            for (int liar = 0; liar < liarCount; liar++) {
+                int left = doneBy(doing, liar, 0);
+                int right = doneBy(doing, liar, 1);
+                boolean pulls = doneBy(doing, liar, 2) == 1;
+                if (elders.through(left) != left || elders.through(right) != right) {
+                    return true;
+                }
+                if (pulls && elders.stuckRopes[liars[liar]]) {
+                    return true;
+                }
+            }
+            return false;
         }
 
         private boolean goOneHour(Elders elders, int hour, Heard heard) {
@@ -1352,8 +1379,8 @@ public final class RingCouncil {
                 if (quiet.put(there) != Found.NEW) {
                     continue;
                 }
-                for (int doing = 0; doing < doingCount; doing++) {
-                    setLiars(doing);
+                for (int i = 0; i < tryCount; i++) {
+                    setLiars(tries[i]);
                     hall.carry(elders, there, hour);
                     int put = heard.isLike(there) ? found.put(there) : Found.OLD;
                     if (put == Found.FULL) {
@@ -1361,7 +1388,7 @@ public final class RingCouncil {
                     }
                     if (put == Found.NEW) {
                         parents[hour][found.count - 1] = state;
-                        doings[hour][found.count - 1] = doing;
+                        doings[hour][found.count - 1] = tries[i];
                     }
                 }
             }
