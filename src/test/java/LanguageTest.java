@@ -31,6 +31,13 @@ public final class LanguageTest {
         "static\\s*\\{", "\\bhashCode\\b", "\\btoString\\b", "\"\\s*\\+", "\\+\\s*\"", "\\bSystem\\.(?!arraycopy)",
         "\\bprotected\\b", "\\bdouble\\b", "\\bfloat\\b", "while \\(true\\)", "for \\(;;"};
 
+    private static final Set<String> LIBRARY = Set.of("Object.<init>", "String.length", "String.charAt",
+        "System.arraycopy");
+    private static final int MOST_DEEP = 8;
+    // Eight that are open around one another and what stands in the innermost, with what leads there.
+    private static final int MOST_LEVELS = 9;
+    private static final int MOST_OPEN_CALLS = 300;
+
     private final Checks checks = new Checks();
 
     public static void main(String[] args) throws IOException {
@@ -38,6 +45,7 @@ public final class LanguageTest {
         test.face();
         test.classesInside();
         test.words(Files.readString(SOURCE));
+        test.calls(CallGraph.of(SOURCE));
         test.checks.close();
     }
 
@@ -119,5 +127,23 @@ public final class LanguageTest {
                 checks.due("11, a method of " + lines + " lines", lines <= 60 || !line.startsWith("        "), true);
             }
         }
+    }
+
+    private void calls(CallGraph graph) {
+        int inCycle = 0;
+        for (String method : graph.methods()) {
+            checks.due("11, calls that stand open from " + method, graph.depth(method) <= MOST_DEEP, true);
+            inCycle = Math.max(inCycle, graph.cycle(method).size());
+        }
+        checks.due("8, calls that stand open at once", inCycle * MOST_LEVELS + MOST_DEEP < MOST_OPEN_CALLS, true);
+        for (String used : graph.library()) {
+            checks.due("4, the library: " + used, LIBRARY.contains(used), true);
+        }
+        for (String maker : graph.makers()) {
+            checks.due("12, made in a constructor: " + maker, maker.endsWith(".<init>"), true);
+        }
+        checks.due("the calls were seen", graph.depth("RingCouncil.suspects") > 1, true);
+        checks.due("the library was seen", graph.library().size(), LIBRARY.size());
+        checks.due("the makers were seen", graph.makers().contains("RingCouncil.<init>"), true);
     }
 }
